@@ -6,6 +6,7 @@ public final class SearchTest {
         raise();
         raiseRefusals();
         changesAreSeen();
+        oneBehindAnother();
         againstAllRows();
         Check.end();
     }
@@ -125,6 +126,48 @@ public final class SearchTest {
         Check.due("another canal", x.boat(0, 1, -1), -9);
         Check.tellCanal(x, "l2;m30;m02;m00");
         raiseIs("a night is another act", x, 0, 4, 2);
+    }
+
+    /** What one question answers does not depend on the one ahead of it. */
+    private static void oneBehindAnother() {
+        String[] canals = new String[32];
+        for (int k = 0; k < canals.length; k++) {
+            canals[k] = "l" + k % 4 + ";m20;m" + k / 4 % 2 + (1 + k / 8 % 2) + (k / 16 == 0 ? "" : ";m00");
+        }
+        int[] alone = new int[canals.length * 5];
+        for (int q = 0; q < alone.length; q++) {
+            alone[q] = question(Check.canalOf(canals[q / 5]), q % 5);
+        }
+        WaterConsent x = new WaterConsent();
+        int asked = 0;
+        for (int first = 0; first < alone.length; first++) {
+            for (int second = 0; second < alone.length; second += 1 + first % 3) {
+                asked++;
+                x = asked % 10 == 0 ? new WaterConsent() : x;
+                Check.tellCanal(x, canals[first / 5]);
+                question(x, first % 5);
+                if (first / 5 != second / 5) {
+                    Check.tellCanal(x, canals[second / 5]);
+                }
+                Check.promise(second % 5 < 2 ? 10 : 11);
+                Check.due("question " + second + " behind " + first, question(x, second % 5), alone[second]);
+            }
+        }
+    }
+
+    private static int question(WaterConsent x, int which) {
+        switch (which) {
+            case 0:
+                return x.boat(0, 1, -1);
+            case 1:
+                return x.boat(0, 1, 0);
+            case 2:
+                return x.raise(0, 3, -1);
+            case 3:
+                return x.raise(1, 2, -1);
+            default:
+                return x.raise(1, 1, 0);
+        }
     }
 
     private static void againstAllRows() {

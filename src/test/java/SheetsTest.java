@@ -147,7 +147,9 @@ public final class SheetsTest {
         Check.row(x, 0, 1, 1, 2, 3);
         Check.row(x, 1, 1, 7, 8);
         Check.row(x, 2, 2, 0);
+        Check.due("a fault ahead of it", x.put(3, 0, 0), Check.NULL);
         Check.due("UNKNOWN: the first", x.copy(4, 0, 3, 0, 1), -1);
+        Check.due("UNKNOWN clears", x.fault(), 0);
         Check.due("UNKNOWN: the other, ahead of NULL", x.copy(3, 0, 4, 0, 1), -1);
         Check.due("UNKNOWN: -1", x.copy(0, 0, -1, 0, 1), -1);
         Check.due("fault()", x.fault(), 0);
