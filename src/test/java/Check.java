@@ -13,10 +13,22 @@ final class Check {
         promise = "promise " + number + ": ";
     }
 
+    /** The name that stands ahead of each answer that is not as due. */
+    static void name(String name) {
+        promise = name + ": ";
+    }
+
     static void due(String call, long got, long want) {
         if (got != want) {
             wrong++;
             System.out.println(promise + call + " answered " + got + ", due is " + want);
+        }
+    }
+
+    static void same(String what, String got, String want) {
+        if (!got.equals(want)) {
+            wrong++;
+            System.out.println(promise + what + ": " + got + ", due is " + want);
         }
     }
 
@@ -32,6 +44,13 @@ final class Check {
         due("sheet", x.sheet(sheet, lane, numbers.length), 1);
         for (int i = 0; i < numbers.length; i++) {
             due("put", x.put(sheet, i, numbers[i]), 1);
+        }
+    }
+
+    /** The cells of a sheet from the first one on. */
+    static void cells(WaterConsent x, int sheet, int lane, long... numbers) {
+        for (int i = 0; i < numbers.length; i++) {
+            due("cell " + i + " of sheet " + sheet, x.cell(sheet, i, lane), numbers[i]);
         }
     }
 

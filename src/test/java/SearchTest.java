@@ -7,6 +7,7 @@ public final class SearchTest {
         raiseRefusals();
         changesAreSeen();
         oneBehindAnother();
+        oneBehindAnotherOfFour();
         againstAllRows();
         Check.end();
     }
@@ -126,6 +127,10 @@ public final class SearchTest {
         Check.due("another canal", x.boat(0, 1, -1), -9);
         Check.tellCanal(x, "l2;m30;m02;m00");
         raiseIs("a night is another act", x, 0, 4, 2);
+        x = Check.canalOf("l1;m19;m09;m09;m09");
+        raiseIs("all want 9", x, 2, 1, 0, 1);
+        Check.tellCanal(x, "l1;m10;m00;m00;m10");
+        Check.due("all want 0", x.raise(2, 1, -1), -9);
     }
 
     /** What one question answers does not depend on the one ahead of it. */
@@ -152,6 +157,55 @@ public final class SearchTest {
                 Check.promise(second % 5 < 2 ? 10 : 11);
                 Check.due("question " + second + " behind " + first, question(x, second % 5), alone[second]);
             }
+        }
+    }
+
+    /** The same of canals that differ by the last one's limit, by rain, or by a last reach that takes nothing. */
+    private static void oneBehindAnotherOfFour() {
+        String[] canals = new String[20];
+        for (int k = 0; k < 16; k++) {
+            canals[k] = "l" + k % 4 + ";m20;m01;m01;m0" + k / 4;
+        }
+        for (int k = 16; k < 20; k++) {
+            canals[k] = "l" + k % 4 + ";m20;m01;m01";
+        }
+        int[] alone = new int[canals.length * 8];
+        for (int q = 0; q < alone.length; q++) {
+            alone[q] = questionOfFour(Check.canalOf(canals[q / 8]), q % 8);
+        }
+        WaterConsent x = new WaterConsent();
+        for (int first = 0; first < alone.length; first++) {
+            for (int second = 0; second < alone.length; second++) {
+                x = second % 10 == 0 ? new WaterConsent() : x;
+                Check.tellCanal(x, canals[first / 8]);
+                questionOfFour(x, first % 8);
+                if (first / 8 != second / 8) {
+                    Check.tellCanal(x, canals[second / 8]);
+                }
+                Check.promise(second % 8 < 3 ? 10 : 11);
+                Check.due("question " + second + " behind " + first, questionOfFour(x, second % 8), alone[second]);
+            }
+        }
+    }
+
+    private static int questionOfFour(WaterConsent x, int which) {
+        switch (which) {
+            case 0:
+                return x.boat(0, 1, -1);
+            case 1:
+                return x.boat(0, 2, -1);
+            case 2:
+                return x.boat(2, 3, -1);
+            case 3:
+                return x.raise(0, 2, -1);
+            case 4:
+                return x.raise(0, 3, -1);
+            case 5:
+                return x.raise(2, 2, -1);
+            case 6:
+                return x.raise(3, 1, -1);
+            default:
+                return x.raise(3, 3, -1);
         }
     }
 
