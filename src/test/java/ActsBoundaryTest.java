@@ -253,6 +253,29 @@ public final class ActsBoundaryTest {
         Check.due("35, a night", withActs("l3;m99;m99;m99;m99", 3).acts(0, 0, 0, 1, 0), 35);
     }
 
+    static void promise9_behindThem_asIfTheyWereDone() {
+        int[] acts = {3, 3, 0, 1, 3, 0, 2, 1, 3, 0, 2, 3, 3};
+        for (int n = 0; n <= acts.length; n++) {
+            WaterConsent told = withActs("l2;m19;m29;p15;m90", java.util.Arrays.copyOf(acts, n));
+            WaterConsent done = Check.canalOf("l2;m19;m29;p15;m90");
+            int openings = 0;
+            int silence = NONE;
+            for (int k = 0; k < n && silence == NONE; k++) {
+                openings += acts[k] < 3 ? 1 : 0;
+                silence = (acts[k] == 3 ? done.nights(1) : done.open(acts[k])) >= 0 ? NONE : k;
+            }
+            int refused = -100 - silence;
+            Check.due(n + " acts, the silence", told.acts(0, 0, 0, n, 1), silence);
+            Check.due(n + " acts, together", told.acts(0, 0, 0, n, 0), silence == NONE ? done.many(2) : refused);
+            Check.due(n + " acts, openings", told.acts(0, 0, 0, n, 2), silence == NONE ? openings : refused);
+            Check.due(n + " acts, gates", told.acts(0, 0, 0, n, 3), silence == NONE ? done.gates() : refused);
+            for (int r = 0; r < 4; r++) {
+                int level = silence == NONE ? done.ofReach(r, 1) : refused;
+                Check.due(n + " acts, level " + r, told.acts(0, 0, 0, n, 10 + r), level);
+            }
+        }
+    }
+
     static void promise9_openings_noneAndAll() {
         WaterConsent x = withActs("l0;m29;m09;m09", 0, 1, 0, 1);
         Check.due("all", x.acts(0, 0, 0, 4, 2), 4);
@@ -292,6 +315,15 @@ public final class ActsBoundaryTest {
         WaterConsent x = withActs("l0;m19;m09", 0, 0, 1, 0);
         Check.due("its place", x.acts(0, 0, 0, 4, 1), 1);
         Check.due("what 0", x.acts(0, 0, 0, 4, 0), -101);
+    }
+
+    static void promise9_silence_toldByItsPlaceInTheRow() {
+        WaterConsent x = withActs("l0;m19;m09", 9, 9, 9, 1, 0, 0, 9);
+        Check.due("from 3 on", x.acts(0, 0, 3, 3, 1), 2);
+        Check.due("from 3 on, what 0", x.acts(0, 0, 3, 3, 0), -102);
+        Check.due("from 4 on", x.acts(0, 0, 4, 2, 1), 1);
+        Check.due("from 4 on, what 10", x.acts(0, 0, 4, 2, 10), -101);
+        Check.due("from 5 on", x.acts(0, 0, 5, 1, 1), NONE);
     }
 
     static void promise9_silence_alsoWhereThereIsNoReach() {

@@ -330,6 +330,57 @@ public final class ConsentBoundaryTest {
         Check.due("without a canal", new WaterConsent().levels(0), -1);
     }
 
+    // ---- promises 14 to 16: in place of what that reach is alone
+
+    static void promise14_inPlaceOfTheLimitAlone() {
+        WaterConsent x = Check.canalOf("l0;p23;s05;m00");
+        x.reading(0, NONE, false);
+        Check.due("proud, not at its level 2", x.limits(0), 0b1111);
+        x.fill(0, 4);
+        Check.due("proud, not at its level 4", x.limits(0), 0b111111);
+        x.back(1);
+        x.reading(1, 1, true);
+        Check.due("sulky, at 1", x.limits(1), 0b1111100000);
+        Check.due("the other one has none", x.limits(0), 1023);
+    }
+
+    static void promise15_inPlaceOfTheKindAlone() {
+        WaterConsent x = Check.canalOf("l0;m13;m00");
+        x.reading(0, NONE, true);
+        Check.due("of limit 3, at its level 1", x.kinds(0), 0b011);
+        x.fill(0, 2);
+        Check.due("of limit 3, at its level 2", x.kinds(0), 0b001);
+        Check.tellCanal(x, "l0;m25;m00");
+        x.reading(0, NONE, true);
+        Check.due("of limit 5, at its level 2", x.kinds(0), 0b011);
+    }
+
+    static void promise16_inPlaceOfTheLevelAlone() {
+        int[] due = {0b11111, 0b1111, 0b11};
+        for (int kind = 0; kind < 3; kind++) {
+            WaterConsent x = Check.canalOf("l0;" + "mps".charAt(kind) + "05;m00");
+            x.reading(0, NONE, true);
+            Check.due("of limit 5, kind " + kind, x.levels(0), due[kind]);
+        }
+    }
+
+    static void promise14_15_16_readingsOfAllReaches() {
+        WaterConsent x = Check.canalOf("l0;m05;p05;s05;m00");
+        x.reading(1, 3, true);
+        x.reading(3, 0, false);
+        Check.due("those of others are so", x.limits(2), 1023);
+        Check.due("its own alone", x.limits(1), 0b1111100000);
+        x.reading(0, NONE, false);
+        Check.due("one of reach 0 is not: limits of 1", x.limits(1), 0);
+        Check.due("one of reach 0 is not: kinds of 1", x.kinds(1), 0);
+        Check.due("one of reach 0 is not: levels of 1", x.levels(1), 0);
+        Check.due("but with another limit of 0", x.limits(0), 0b1);
+        Check.due("or another level of 0", x.levels(0), 0b1111100000);
+        Check.due("no kind of 0", x.kinds(0), 0);
+        x.fill(0, 5);
+        Check.due("it is so at that level: limits of 1", x.limits(1), 0b1111100000);
+    }
+
     // ---- promise 17: odds
 
     private static void share(WaterConsent x, int n, int v, int upper, int lower) {
@@ -414,6 +465,28 @@ public final class ConsentBoundaryTest {
         WaterConsent x = Check.canalOf("l0;m40;m00");
         share(x, 8, 4, 1, 1);
         share(x, 8, 5, 0, 1);
+    }
+
+    static void promise17_fromHowAllIsNow() {
+        WaterConsent x = Check.canalOf("l0;m00;m09");
+        share(x, 2, 3, 0, 1);
+        x.rain(2);
+        share(x, 2, 3, 1, 4);
+        x.fill(0, 1);
+        share(x, 2, 3, 3, 4);
+        x.nights(1);
+        share(x, 2, 3, 1, 1);
+        x.open(0);
+        share(x, 2, 3, 3, 4);
+        Check.tellCanal(x, "l1;m20;m00");
+        share(x, 2, 3, 3, 4);
+        share(x, 2, 4, 1, 4);
+    }
+
+    static void promise17_ofTheFirstReachAlone() {
+        share(Check.canalOf("l1;m00;m99;m99;m99"), 2, 2, 1, 4);
+        share(Check.canalOf("l1;p09;s00;m59"), 2, 2, 1, 4);
+        share(Check.canalOf("l1;s00;m99"), 2, 2, 1, 4);
     }
 
     static void promise17_namesNoFaults() {

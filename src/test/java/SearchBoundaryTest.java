@@ -209,6 +209,24 @@ public final class SearchBoundaryTest {
         Check.due("more than there is", Check.canalOf("l0;m40;m09").raise(1, 5, -1), NONE);
     }
 
+    static void promise11_aRowIsOneThatMayBeDone() {
+        String[] canals = {"l1;m09;m09;m09;m09", FOUR, "l3;m00;p09;s39;m29", "l2;m12;p97;m08"};
+        int[] reach = {3, 3, 2, 2};
+        int[] level = {9, 5, 4, 8};
+        for (int c = 0; c < canals.length; c++) {
+            WaterConsent x = Check.canalOf(canals[c]);
+            int n = x.raise(reach[c], level[c], -1);
+            x.sheet(0, 0, 40);
+            for (int k = 0; k < n; k++) {
+                x.put(0, k, x.raise(reach[c], level[c], k));
+            }
+            Check.due("there are acts", n > 0 ? 1 : 0, 1);
+            Check.due("no silence", x.acts(0, 0, 0, n, 1), NONE);
+            Check.due("so high", x.acts(0, 0, 0, n, 10 + reach[c]), level[c]);
+            Check.due("not so high ahead", x.acts(0, 0, 0, n - 1, 10 + reach[c]) < level[c] ? 1 : 0, 1);
+        }
+    }
+
     static void promise11_outside_vFrom0To9() {
         WaterConsent x = Check.canalOf("l1;m00;m09");
         Check.due("v 0", x.raise(0, 0, -1), 0);

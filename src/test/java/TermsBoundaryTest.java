@@ -1,3 +1,4 @@
+import java.lang.reflect.Modifier;
 import java.util.ArrayList;
 import java.util.List;
 
@@ -20,6 +21,23 @@ public final class TermsBoundaryTest {
         Check.due("FULL", WaterConsent.FULL, -4);
         Check.due("NONE", WaterConsent.NONE, -9);
         Check.due("LOST", WaterConsent.LOST, LEAST * 4294967296L);
+    }
+
+    static void terms_face_typesOfTheConstants() throws NoSuchFieldException {
+        for (String name : new String[] {"UNKNOWN", "OUTSIDE", "STATE", "FULL", "NONE", "LOST"}) {
+            java.lang.reflect.Field field = WaterConsent.class.getField(name);
+            int open = Modifier.PUBLIC | Modifier.STATIC | Modifier.FINAL;
+            Check.due(name + " is public static final", field.getModifiers(), open);
+            Check.same(name, field.getType().getName(), name.equals("LOST") ? "long" : "int");
+        }
+        Check.due("constants and no more", WaterConsent.class.getFields().length, 6);
+    }
+
+    static void terms_face_aClassWithoutAPackage() {
+        Check.same("its package", WaterConsent.class.getPackageName(), "");
+        Check.due("public final", WaterConsent.class.getModifiers(), Modifier.PUBLIC | Modifier.FINAL);
+        Check.same("above it", WaterConsent.class.getSuperclass().getName(), "java.lang.Object");
+        Check.due("interfaces", WaterConsent.class.getInterfaces().length, 0);
     }
 
     static void terms_face_constantsAreWhatIsAnswered() {
@@ -84,6 +102,22 @@ public final class TermsBoundaryTest {
             Check.due("call " + (call + 1), x.back(1), 0);
         }
         Check.due("the last call", x.many(3), 0);
+    }
+
+    /** What they answer is free; the rules of the language ask that none throws. */
+    static void terms_calls_behindThe512thNoneThrows() {
+        WaterConsent x = Check.canalOf(FOUR);
+        Check.row(x, 0, 0, 0, 1, 2, 3);
+        for (int call = 0; call < 2000; call++) {
+            int far = call % 11 == 0 ? LEAST : call % 13 == 0 ? GREATEST : call % 7 - 1;
+            long[] answers = {x.canal(far, 0, far, far), x.ofReach(far, far), x.fill(far, call % 10), x.rain(far),
+                x.gates(), x.open(far), x.nights(call % 2), x.acts(0, 0, far, far, far), x.boat(far, 3, far),
+                x.raise(far, call % 10, far), x.reading(far, far, true), x.back(far), x.limits(far), x.kinds(far),
+                x.levels(far), x.odds(far, far, far), x.sheet(call % 3 + 1, call % 3, far), x.lose(3), x.put(far, far, far),
+                x.cell(far, far, call % 3), x.copy(far, far, 0, far, far), x.tell(far), x.flatter(far), x.as(far, far),
+                x.trace(), x.fault(), x.many(far)};
+            Check.due("answers", answers.length, 27);
+        }
     }
 
     // ---- refusals and faults: what they leave as it was
